@@ -1098,15 +1098,17 @@ public final class NameBenches {
         final int[] namesWith = new int[ALPHABET];
 
         int bestCode(Registry registry, int giver, int p, int many) {
+            // of the reasons against a name, only its being taken depends on the letters
             if (registry.reasonAgainstAnyName(giver, p) != 0 || registry.names.isFull()) {
                 return NONE;
             }
+            int bench = registry.people.bench[p];
             countNames(registry.names);
             int best = NONE;
             int fewest = 0;
             for (int code = 0; code < Letters.codes(many); code++) {
                 int found = namesWithLettersOf(many, code);
-                if ((best == NONE || found < fewest) && registry.reasonAgainst(giver, p, many, code) == 0) {
+                if ((best == NONE || found < fewest) && !registry.isTaken(bench, many, code, NONE)) {
                     best = code;
                     fewest = found;
                 }

@@ -52,6 +52,7 @@ public final class PromisesTest {
         simulate();
         save();
         restore();
+        restoreOfEachNumber();
         Check.end();
     }
 
@@ -187,11 +188,14 @@ public final class PromisesTest {
         isError("Rp9953", NONE);
         isError("Rp0000", NONE);
         isError("Rpa", 2);
+        isError("Rp:", 2);
         isError("Rp0:", 3);
         isError("Rp996", 4);
         isError("Rp9954", 5);
         isError("Rp995", 5);
         isError("Rg0011ABCD.", NONE);
+        isError("RgA.", 2);
+        isError("Rg11A.", 4);
         isError("Rg2", 2);
         isError("Rg12", 3);
         isError("Rg1109A.", NONE);
@@ -213,17 +217,20 @@ public final class PromisesTest {
         isError("Rc/", 2);
         isError("Ry", 2);
         isError("Ry0", 2);
+        isError("Ry:", 2);
         isError("Ry9", NONE);
         isError("Ry11", 3);
         isError("Rb113", NONE);
         isError("Rb12", 3);
+        isError("Rb3", 2);
         isError("Rb114", 4);
         isError("Rb11", 4);
         isError("Rs", 2);
         isError("Rs3", 2);
         isError("Rs29", NONE);
         isError("Rs00", NONE);
-        isError("Rs2A", 3);
+        isError("Rs2:", 3);
+        isError("Rs2/", 3);
     }
 
     private static void load() {
@@ -851,8 +858,8 @@ public final class PromisesTest {
         }
         Check.same("40 names", y.bestName(0, 1, 2), NONE);
         NameBenches z = of("Rp0100p0100p0100p0100"
-            + "g0001ACDE.g0001ABB.g0001FGHI.g0002JKLM.g0002NOPQ.g0002RSTU.g0003VWXY.g0003Z.");
-        Check.same("a name with two Bs is one name with B", z.bestName(1, 0, 1), B);
+            + "g0001ACDE.g0001BABB.g0001FGHI.g0002JKLM.g0002NOPQ.g0002RSTU.g0003VWXY.g0003Z.");
+        Check.same("a name with three Bs is one name with B", z.bestName(1, 0, 1), B);
         Check.same("BB", z.bestName(1, 0, 2), 27);
         z.years(3);
         Check.same("names that are not alive do not count", z.bestName(1, 0, 1), A);
@@ -881,6 +888,10 @@ public final class PromisesTest {
         Check.same("those that were sticking count", x.bestGiver(), 0);
         NameBenches y = of("Rp0100p0100p0100s01g0001A.g0001B.g0001C.g0102D.g0102E.c0A.c0D.");
         Check.same("a half before a third", y.bestGiver(), 1);
+        NameBenches z = of("Rp0100p0100p0100s01g0001A.g0200B.g0200C.");
+        Check.same("whoever gave most, if higher", z.bestGiver(), 2);
+        z.call(0, 1, A);
+        Check.same("not with a lesser share", z.bestGiver(), 0);
     }
 
     private static void mixed() {
@@ -939,6 +950,7 @@ public final class PromisesTest {
             Check.same("runScript " + group, x.runScript(1, Long.parseLong(group)), 0);
         }
         Check.same("a name is given in the copy", x.runScript(3, 110250_620000_903000L), NONE);
+        Check.same("by these letters", x.runScript(2, 110250_702500L), NONE);
         Check.same("sits in the copy", x.runScript(2, 410003_730210L), NONE);
         Check.same("sits no more where it was", x.runScript(2, 410003_710210L), 1);
         Check.same("the state in the copy", x.runScript(3, 300009_900002_901002L), NONE);
@@ -1058,5 +1070,47 @@ public final class PromisesTest {
         put(x, "R");
         x.load();
         refuses(x, "restore behind load", STATE, () -> x.restore(1));
+    }
+
+    /** Two states behind the same one, with other numbers of all kinds, are restored by turns. */
+    private static void restoreOfEachNumber() {
+        NameBenches x = new NameBenches();
+        x.save(0);
+        x.person(50, 5, 3);
+        x.person(5, 5, 2);
+        x.give(0, 1, 4, ZZZZ);
+        x.set(0, 1);
+        x.call(2, 4, ZZZZ);
+        calls(x, 2, 3, 4, ZZZZ);
+        x.call(0, 1, A);
+        x.save(1);
+        String later = all(x);
+        x.restore(0);
+        x.person(10, 0, 0);
+        x.person(11, 0, 1);
+        x.person(12, 1, 1);
+        x.years(2);
+        x.give(1, 0, 2, AB);
+        x.set(1, 5);
+        x.set(2, 2);
+        x.call(0, 2, AB);
+        x.call(1, 2, AB);
+        calls(x, 4, 3, 1, Z);
+        x.give(0, 0, 1, A);
+        x.save(0);
+        String other = all(x);
+        for (int i = 0; i < 3; i++) {
+            x.restore(1);
+            Check.that("all numbers of slot 1", later.equals(all(x)));
+            x.restore(0);
+            Check.that("all numbers of slot 0", other.equals(all(x)));
+        }
+        Check.same("who was called so", x.personOf(1, 7), 1);
+        Check.same("whose name it was", x.personOf(0, 8), 1);
+        Check.same("the giver", x.nameOf(0, 2), 1);
+        Check.same("the latest use", x.nameOf(0, 5), 2);
+        Check.same("not sticking", x.nameOf(0, 7), 0);
+        x.restore(1);
+        Check.same("sticking", x.nameOf(0, 7), 1);
     }
 }
