@@ -2,15 +2,29 @@
 final class Check {
     private static int wrong = 0;
     private static int asked = 0;
+    private static String where = "";
 
     private Check() {
+    }
+
+    /** One sentence of the document, by the promise that holds it, with a test of its own. */
+    static void edge(String promise, String words, Runnable test) {
+        int before = asked;
+        where = promise + ", \"" + words + "\": ";
+        try {
+            test.run();
+        } catch (RuntimeException e) {
+            that("the test threw " + e, false);
+        }
+        that("nothing was asked", asked > before);
+        where = "";
     }
 
     static void same(String what, long got, long due) {
         asked++;
         if (got != due) {
             wrong++;
-            System.out.println(what + " answered " + got + ", due is " + due);
+            System.out.println(where + what + " answered " + got + ", due is " + due);
         }
     }
 
@@ -29,7 +43,7 @@ final class Check {
         }
         if (got != due) {
             wrong++;
-            System.out.println(what + " threw " + got + ", due is " + due);
+            System.out.println(where + what + " threw " + got + ", due is " + due);
         }
     }
 

@@ -1,20 +1,5 @@
 /** One method for each promise of the document, with what it names: ordinary inputs, edges, wrong inputs. */
-public final class PromisesTest {
-    private static final Class<IndexOutOfBoundsException> BOUNDS = IndexOutOfBoundsException.class;
-    private static final Class<IllegalArgumentException> ARGUMENT = IllegalArgumentException.class;
-    private static final Class<IllegalStateException> STATE = IllegalStateException.class;
-    private static final int NONE = -1;
-    private static final int LEAST = Integer.MIN_VALUE;
-    private static final int MOST = Integer.MAX_VALUE;
-
-    private static final int A = 0;
-    private static final int B = 1;
-    private static final int C = 2;
-    private static final int D = 3;
-    private static final int Z = 25;
-    private static final int AB = 1;
-    private static final int ZZZZ = 456975;
-
+public final class PromisesTest extends TestBase {
     public static void main(String[] args) {
         newObject();
         append();
@@ -54,69 +39,6 @@ public final class PromisesTest {
         restore();
         restoreOfEachNumber();
         Check.end();
-    }
-
-    // ---- helpers
-
-    private static NameBenches of(String text) {
-        NameBenches x = new NameBenches();
-        put(x, text);
-        Check.same("load of " + text, x.load(), 0);
-        return x;
-    }
-
-    private static void put(NameBenches x, String text) {
-        x.clearText();
-        for (char sign : text.toCharArray()) {
-            x.append(sign);
-        }
-    }
-
-    private static void isError(String text, int due) {
-        NameBenches x = new NameBenches();
-        put(x, text);
-        Check.same("errorPosition of " + text, x.errorPosition(), due);
-    }
-
-    private static void abouts(NameBenches x, String what, int... due) {
-        for (int i = 0; i < due.length; i++) {
-            Check.same(what + ": about(" + i + ")", x.about(i), due[i]);
-        }
-    }
-
-    private static void states(NameBenches x, String what, int... due) {
-        Check.same(what + ": names", x.about(1), due.length);
-        for (int n = 0; n < due.length && n < x.about(1); n++) {
-            Check.same(what + ": state of name " + n, x.nameOf(n, 6), due[n]);
-        }
-    }
-
-    /** Everything of the state that can be asked for. */
-    private static String all(NameBenches x) {
-        StringBuilder told = new StringBuilder();
-        for (int what = 0; what <= 14; what++) {
-            told.append(x.about(what)).append(' ');
-        }
-        for (int i = 0; i < 9 * x.about(0); i++) {
-            told.append(x.personOf(i / 9, i % 9)).append(' ');
-        }
-        for (int i = 0; i < 8 * x.about(1); i++) {
-            told.append(x.nameOf(i / 8, i % 8)).append(' ');
-        }
-        return told.toString();
-    }
-
-    /** The call throws and changes nothing, and no state is remembered by it. */
-    private static void refuses(NameBenches x, String what, Class<? extends RuntimeException> due, Runnable call) {
-        String before = all(x);
-        Check.fails(what, due, call);
-        Check.that(what + " changes nothing", before.equals(all(x)));
-    }
-
-    private static void calls(NameBenches x, int times, int b, int many, int code) {
-        for (int i = 0; i < times; i++) {
-            x.call(b, many, code);
-        }
     }
 
     // ---- 1 to 5
@@ -421,18 +343,6 @@ public final class PromisesTest {
         x.years(3);
         Check.same("meant, not alive, 0", x.meant(2, 1, A, 0), NONE);
         Check.same("meant, not alive, 1", x.meant(2, 1, A, 1), NONE);
-    }
-
-    private interface WithCode {
-        Runnable call(int many, int code);
-    }
-
-    private static void wrongCodes(String what, WithCode with) {
-        int[][] wrong = {{0, 0}, {5, 0}, {LEAST, 0}, {MOST, 0}, {-1, 0}, {1, -1}, {1, 26}, {2, 676}, {3, 17576},
-            {4, 456976}, {4, LEAST}, {4, MOST}};
-        for (int[] pair : wrong) {
-            Check.fails(what + " with " + pair[0] + " " + pair[1], ARGUMENT, with.call(pair[0], pair[1]));
-        }
     }
 
     // ---- 12 to 18
