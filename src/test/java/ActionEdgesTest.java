@@ -30,6 +30,8 @@ public final class ActionEdgesTest extends TestBase {
         undoAnswers();
         undoOfEach();
         undoOfCounts();
+        undonePersonIsGone();
+        undoneNameIsGone();
         undoOfUndo();
         fourteenStates();
         nothingDifferent();
@@ -164,8 +166,10 @@ public final class ActionEdgesTest extends TestBase {
         Check.edge(THIRTEEN, words, () -> Check.same("the own bench", of(text).sit(1, 1), 1));
         Check.edge(THIRTEEN, words, () -> Check.same("without a name", of(text).sit(2, 0), 1));
         Check.edge(THIRTEEN, words, () -> Check.same("with other letters", of("Rp1000p1001g0001A.g0100AA.").sit(1, 0), 1));
-        Check.edge(THIRTEEN, words, () -> Check.same("the other's is forgotten", of("Rp0000p0001g0100A.y1g0001A.y2").sit(1, 0), 1));
-        Check.edge(THIRTEEN, words, () -> Check.same("the own is forgotten", of("Rp0000p0001g0001A.y1g0100A.y2").sit(1, 0), 1));
+        Check.edge(THIRTEEN, words,
+            () -> Check.same("the other's is forgotten", of("Rp0000p0001g0100A.y1g0001A.y2").sit(1, 0), 1));
+        Check.edge(THIRTEEN, words,
+            () -> Check.same("the own is forgotten", of("Rp0000p0001g0001A.y1g0100A.y2").sit(1, 0), 1));
     }
 
     private static void refusesOne(NameBenches x, int p, int bench) {
@@ -435,6 +439,72 @@ public final class ActionEdgesTest extends TestBase {
         });
     }
 
+    /** Person 2, a brother on bench 1, was mixed up and lent a name; nothing of that is left. */
+    private static NameBenches undonePerson() {
+        NameBenches x = of("Rp1000p1000g0001A.");
+        x.person(20, 0, 1);
+        x.call(1, 1, A);
+        x.give(0, 2, 1, B);
+        x.call(0, 1, B);
+        for (int i = 3; i >= 0; i--) {
+            Check.same("undo", x.undo(), i);
+        }
+        return x;
+    }
+
+    private static void undonePersonIsGone() {
+        String words = "Takes back the last action that is remembered.";
+        Check.edge(EIGHTEEN, words, () -> Check.fails("the person", BOUNDS, () -> undonePerson().personOf(2, 0)));
+        Check.edge(EIGHTEEN, words, () -> Check.fails("the name", BOUNDS, () -> undonePerson().nameOf(1, 0)));
+        Check.edge(EIGHTEEN, words, () -> Check.same("mixed", undonePerson().mixed(), NONE));
+        Check.edge(EIGHTEEN, words, () -> Check.same("brothers", undonePerson().personOf(0, 4), 1));
+        Check.edge(EIGHTEEN, words, () -> Check.same("meant, person by person", undonePerson().meant(1, 1, A, 0), NONE));
+        Check.edge(EIGHTEEN, words, () -> Check.same("meant, by the names", undonePerson().meant(1, 1, A, 1), NONE));
+        Check.edge(EIGHTEEN, words, () -> {
+            NameBenches x = undonePerson();
+            x.person(30, 0, 2);
+            Check.same("the next one was never called so", x.personOf(2, 7), 0);
+            Check.same("and lent no name", x.personOf(2, 8), 0);
+        });
+    }
+
+    /** Name 1, B of person 2 on bench 1, was used until it stuck, and is taken back. */
+    private static NameBenches undoneName() {
+        NameBenches x = of("Rp1000p1000p1001s01g0001A.");
+        x.give(0, 2, 1, B);
+        x.call(1, 1, B);
+        x.undo();
+        x.undo();
+        return x;
+    }
+
+    private static void undoneNameIsGone() {
+        String words = "Takes back the last action that is remembered.";
+        Check.edge(EIGHTEEN, words, () -> abouts(undoneName(), "undone", 3, 1, 1, 0, 0, 0, 0, 0, 0));
+        Check.edge(EIGHTEEN, words, () -> Check.same("roll", undoneName().roll(1), NONE));
+        Check.edge(EIGHTEEN, words, () -> Check.same("names of its bearer", undoneName().personOf(2, 3), 0));
+        Check.edge(EIGHTEEN, words, () -> Check.same("names of its giver", undoneName().personOf(0, 5), 1));
+        Check.edge(EIGHTEEN, words, () -> Check.same("that were sticking", undoneName().personOf(0, 6), 0));
+        Check.edge(EIGHTEEN, words, () -> Check.same("meant, person by person", undoneName().meant(1, 1, B, 0), NONE));
+        Check.edge(EIGHTEEN, words, () -> Check.same("meant, by the names", undoneName().meant(1, 1, B, 1), NONE));
+        Check.edge(EIGHTEEN, words, () -> Check.same("why", undoneName().why(0, 2, 1, B), 0));
+        Check.edge(EIGHTEEN, words, () -> Check.same("bestName", undoneName().bestName(0, 2, 1), B));
+        Check.edge(EIGHTEEN, words, () -> Check.fails("endsIn", BOUNDS, () -> undoneName().endsIn(1)));
+        Check.edge(EIGHTEEN, words, () -> Check.same("years", undoneName().years(9), 1));
+        Check.edge(EIGHTEEN, words, () -> {
+            NameBenches x = of("Rp1000p1001g0001A.");
+            x.give(1, 0, 1, A);
+            x.undo();
+            Check.same("it keeps nobody from its bench", x.sit(1, 0), 1);
+        });
+        Check.edge(EIGHTEEN, words, () -> {
+            NameBenches x = of("Rp1000p1001g0100A.");
+            x.give(0, 1, 1, A);
+            x.undo();
+            Check.same("nor its bearer from another", x.sit(1, 0), 1);
+        });
+    }
+
     private static void undoOfUndo() {
         String words = "(undo is none)";
         Check.edge(EIGHTEEN, words, () -> {
@@ -490,7 +560,8 @@ public final class ActionEdgesTest extends TestBase {
     }
 
     private static void nothingDifferent() {
-        String words = "Each call of one of them that does not throw an exception is an action, also if nothing becomes different";
+        String words = "Each call of one of them that does not throw an exception is an action, "
+            + "also if nothing becomes different";
         isAction(words, "the same setting", x -> x.set(0, 2));
         isAction(words, "the same bench", x -> x.sit(0, 0));
         isAction(words, "a refused name", x -> x.give(0, 0, 1, A));

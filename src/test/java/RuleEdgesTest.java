@@ -93,6 +93,14 @@ public final class RuleEdgesTest extends TestBase {
             }
             Check.fails("a 13th", STATE, () -> x.person(0, 0, 0));
         });
+        Check.edge(PEOPLE, "There are at most 12 people, numbered from 0 in the order in which they came", () -> {
+            NameBenches x = of("R" + "p1000".repeat(11) + "p1001g1011A.");
+            Check.same("nobody was mixed up", x.mixed(), NONE);
+            Check.same("no brother, by the names", x.meant(3, 1, A, 1), NONE);
+            Check.same("the 12th has it", x.call(1, 1, A), 11);
+            Check.same("the first is his brother", x.call(0, 1, A), 0);
+            Check.same("the 12th is called so", of("R" + "p1000".repeat(11) + "p1001g0100A.c1A.").mixed(), 11);
+        });
         Check.edge(PEOPLE, "Years are numbered from 0.", () -> {
             NameBenches x = of("Rp1000p1000g0001A.");
             Check.same("the first year", x.about(7), 0);
@@ -120,6 +128,21 @@ public final class RuleEdgesTest extends TestBase {
             NameBenches x = forty();
             Check.same("a 41st", x.give(0, 1, 1, A), 5);
             Check.same("names", x.about(1), 40);
+        });
+        Check.edge(PEOPLE, words, () -> {
+            NameBenches x = fewerThanForty(39);
+            x.give(0, 1, 1, B);
+            abouts(x, "one of 40 is alive", 3, 40, 1, 0, 39, 0, 0, 39, 0);
+            Check.same("roll", x.roll(0), 39);
+            Check.same("no more", x.roll(1), NONE);
+            Check.same("meant, person by person", x.meant(0, 1, B, 0), 1);
+            Check.same("meant, by the names", x.meant(0, 1, B, 1), 1);
+            Check.same("nobody by a name that is forgotten", x.meant(0, 1, A, 1), NONE);
+            Check.same("names given", x.personOf(0, 5), 40);
+            Check.same("that were sticking", x.personOf(0, 6), 0);
+            Check.same("the best giver", x.bestGiver(), 0);
+            Check.same("sit", x.sit(1, 3), 0);
+            Check.same("years", x.years(1), 1);
         });
         Check.edge(PEOPLE, words, () -> {
             NameBenches x = of("Rp1000p1000g0100B.g0001A.g0001C.");

@@ -139,6 +139,30 @@ public final class SlotEdgesTest extends TestBase {
             Check.that("every number is as it was", saved.equals(all(x)));
         });
         Check.edge(RESTORE, words, () -> {
+            NameBenches x = of("Rp1000p1000p1000s01");
+            x.give(0, 1, 1, A);
+            x.call(0, 1, A);
+            String saved = all(x);
+            x.save(0);
+            x.undo();
+            x.undo();
+            x.give(2, 0, 4, ZZZZ);
+            x.restore(0);
+            Check.that("a name of the same number, with another giver, is replaced wholly", saved.equals(all(x)));
+        });
+        Check.edge(RESTORE, words, () -> {
+            NameBenches x = new NameBenches();
+            x.save(1);
+            x.person(50, 5, 3);
+            x.save(0);
+            x.restore(1);
+            x.person(10, 1, 2);
+            x.restore(0);
+            Check.same("the age of a person of the same number", x.personOf(0, 0), 50);
+            Check.same("the family", x.personOf(0, 1), 5);
+            Check.same("the bench", x.personOf(0, 2), 3);
+        });
+        Check.edge(RESTORE, words, () -> {
             NameBenches x = new NameBenches();
             x.save(0);
             add(x, "Ry");

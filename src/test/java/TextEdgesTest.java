@@ -56,6 +56,8 @@ public final class TextEdgesTest extends TestBase {
             () -> Check.same("setting 1", new NameBenches().about(13), 3));
         Check.edge(ONE, "2: years for a quarter of a letter, 0 to 9, at first 3",
             () -> Check.same("setting 2", new NameBenches().about(14), 3));
+        Check.edge(ONE, "Creates a registry without people.",
+            () -> abouts(new NameBenches(), "new", 0, 0, 0, 0, 0, 0, 0, 0, 0, 0, 0, 0, 3, 3, 3));
         Check.edge(ONE, "The object has a text buffer of at most 120 characters.", () -> {
             NameBenches x = new NameBenches();
             Check.same("errorPosition", x.errorPosition(), 0);
@@ -356,6 +358,16 @@ public final class TextEdgesTest extends TestBase {
             put(x, "Rp2020p2121g0001B.");
             x.load();
             Check.that("no person or name is as before", all(x).equals(all(of("Rp2020p2121g0001B."))));
+        });
+        Check.edge(FIVE, "Makes everything as in a new object, and then does the commands of the text.", () -> {
+            NameBenches x = of("Rp1000p1000s01g0001A.c0A.");
+            put(x, "Rp1000p1000");
+            x.load();
+            Check.same("no letter is in a name", x.bestName(0, 1, 1), A);
+            Check.same("nobody is meant", x.meant(0, 1, A, 1), NONE);
+            Check.same("nobody gave any", x.bestGiver(), NONE);
+            Check.same("none was sticking", x.personOf(0, 6), 0);
+            Check.same("the roll is empty", x.roll(0), NONE);
         });
         Check.edge(FIVE, "Behind it no state is remembered, and both save slots are empty.", () -> {
             NameBenches x = busy();

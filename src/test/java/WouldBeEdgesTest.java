@@ -247,10 +247,14 @@ public final class WouldBeEdgesTest extends TestBase {
         bestIs(alive, "Rp1000p1000g0001BACD.", 1, 4);
         String twice = "(a letter that comes twice counts twice)";
         Check.edge(TWENTY_ONE, twice, () -> {
-            NameBenches x = allButZTwice();
-            Check.same("Z is in none", x.bestName(9, 8, 2), ZZ);
+            NameBenches x = twiceFrom(A);
             x.give(9, 10, 2, ZZ);
             Check.same("AZ has two and one, AA would have two and two", x.bestName(9, 8, 2), 25);
+        });
+        Check.edge(TWENTY_ONE, twice, () -> {
+            NameBenches x = twiceFrom(B);
+            x.give(9, 10, 2, AA);
+            Check.same("AB has one and two, BB would have two and two", x.bestName(9, 8, 2), AB);
         });
         Check.edge(TWENTY_ONE, "for each of its letters the names that are alive and have that letter anywhere are counted",
             () -> {
@@ -260,23 +264,26 @@ public final class WouldBeEdgesTest extends TestBase {
             });
     }
 
-    /** All letters but Z are in two names each, on other benches than that of 8 to 11. */
-    private static NameBenches allButZTwice() {
+    /** 25 letters, from A or from B, are in two names each, on other benches than that of 8 to 11; one is in none. */
+    private static NameBenches twiceFrom(int least) {
         NameBenches x = new NameBenches();
         for (int p = 0; p < 12; p++) {
             x.person(1, 0, p < 3 ? 1 : p < 8 ? 2 : 0);
         }
         int given = 0;
-        for (int first = 0; first < Z; first += 4) {
-            int many = Math.min(4, Z - first);
+        for (int first = 0; first < 25; first += 4) {
+            int many = Math.min(4, 25 - first);
             int code = 0;
             for (int i = 0; i < many; i++) {
-                code = 26 * code + first + i;
+                code = 26 * code + least + first + i;
             }
             Check.same("on bench 1", x.give(9, given / 3, many, code), 0);
             Check.same("on bench 2", x.give(9, 3 + given / 3, many, code), 0);
             given++;
         }
+        int free = least == A ? Z : A;
+        Check.same("one letter is in none", x.bestName(9, 8, 1), free);
+        Check.same("nor is it twice", x.bestName(9, 8, 2), 27 * free);
         return x;
     }
 
@@ -377,7 +384,8 @@ public final class WouldBeEdgesTest extends TestBase {
     }
 
     private static void scriptRange() {
-        String words = "Throws `IllegalArgumentException` if n is out of range, or if script is negative or has more than 6 * n digits";
+        String words = "Throws `IllegalArgumentException` if n is out of range, "
+            + "or if script is negative or has more than 6 * n digits";
         for (int n : new int[] {0, 4, -1, LEAST, MOST}) {
             Check.edge(TWENTY_FOUR, words, () -> Check.fails("n " + n, ARGUMENT, () -> busy().runScript(n, 0L)));
         }
@@ -508,6 +516,7 @@ public final class WouldBeEdgesTest extends TestBase {
         bad(words, x, 900000, 901001, 902003, 903001, 904000, 900005, 900009, 900014, 900104);
         bad("commands with people, benches, letters or names that do not exist fail", x, 905000, 940000, 999000);
         bad("commands with people, benches, letters or names that do not exist fail", new NameBenches(), 900000);
+        bad(words, of("Rp1000p1000g0001A."), 901000, 910000, 999000);
         NameBenches y = of("Rp0000p0000s11");
         for (int i = 0; i < 39; i++) {
             y.give(0, 1, 1, A);
@@ -683,7 +692,8 @@ public final class WouldBeEdgesTest extends TestBase {
     }
 
     private static void simulateAnswers() {
-        String words = "Returns 10000 * (the names that are alive at the end) + 100 * (the people at the end) + (the mixes in the turns).";
+        String words = "Returns 10000 * (the names that are alive at the end) "
+            + "+ 100 * (the people at the end) + (the mixes in the turns).";
         for (long seed = 0; seed < 40; seed++) {
             simulated(words, "Rp0100p0100p0101p0101p0110p0111p0112g0001A.g0200B.g0302D.s19s29", seed, 60);
         }

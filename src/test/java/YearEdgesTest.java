@@ -91,7 +91,8 @@ public final class YearEdgesTest extends TestBase {
         Check.edge(YEARS, words, () -> states(of("Rp5000p5000g0001A."), "much older, but no year went by", NEW));
         Check.edge(YEARS, words, () -> states(of("Rp5000p5000s29g0001AB.y1s20"), "the setting alone", NEW));
         Check.edge(YEARS, words, () -> states(of("Rp5000p0000g0001A.y1"), "it is not the age of the giver", NEW));
-        Check.edge(YEARS, words, () -> states(of("Rp1300p1300s01g0100A.c0A.y1"), "sticking, without a younger one", OUTGROWN));
+        Check.edge(YEARS, words,
+            () -> states(of("Rp1300p1300s01g0100A.c0A.y1"), "sticking, without a younger one", OUTGROWN));
     }
 
     /** The name is given in the year before that in which its bearer is as old as it allows. */
