@@ -332,6 +332,14 @@ public final class WouldBeEdgesTest extends TestBase {
         giverIs(share, "Rp0000p0000p0000s01g0001A.g0001B.g0001C.g0102D.g0102E.c0A.c0B.c0D.", 0);
         giverIs(share, "Rp0000p0000p0000s01g0001A.g0102B.c0B.y3", 1);
         giverIs(share, "Rp0000p0000p0000s01g0102A.g0102B.g0001C.c0C.", 0);
+        Check.edge(TWENTY_TWO, share, () -> {
+            NameBenches x = twoGivers(7, 3, 19, 8);
+            Check.same("3 of 7 are more than 8 of 19, though both are 42 of 100", x.bestGiver(), 0);
+        });
+        Check.edge(TWENTY_TWO, share, () -> {
+            NameBenches x = twoGivers(19, 8, 7, 3);
+            Check.same("8 of 19 are less than 3 of 7, though both are 42 of 100", x.bestGiver(), 1);
+        });
         String most = "of several the one who gave most";
         giverIs(most, "Rp0000p0000p0000g0001A.g0102B.g0102C.", 1);
         giverIs(most, "Rp0000p0000p0000s01g0001A.g0102B.g0102C.c0A.c0B.c0C.", 1);
@@ -342,6 +350,23 @@ public final class WouldBeEdgesTest extends TestBase {
         giverIs("of those who gave any name", "Rp1200p0500p0500s01g0100A.c0A.y1", 1);
         Check.edge(TWENTY_TWO, "these and all following methods up to the save slots change nothing",
             () -> changesNothing("bestGiver", NameBenches::bestGiver));
+    }
+
+    /** Persons 0 and 1 gave so many names, of which so many are sticking: at most 26, all on one bench. */
+    private static NameBenches twoGivers(int given, int stuck, int otherGiven, int otherStuck) {
+        NameBenches x = of("Rs01" + "p1000".repeat(12));
+        for (int code = 0; code < given + otherGiven; code++) {
+            boolean isOther = code >= given;
+            x.give(isOther ? 1 : 0, 2 + code / 3, 1, code);
+            if (isOther ? code < given + otherStuck : code < stuck) {
+                x.call(0, 1, code);
+            }
+        }
+        Check.same("given by 0", x.personOf(0, 5), given);
+        Check.same("stuck of 0", x.personOf(0, 6), stuck);
+        Check.same("given by 1", x.personOf(1, 5), otherGiven);
+        Check.same("stuck of 1", x.personOf(1, 6), otherStuck);
+        return x;
     }
 
     // ---- Promise 23
